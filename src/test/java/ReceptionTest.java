@@ -15,7 +15,9 @@ final class ReceptionTest {
         pointersBehindTheData();
         emptyAndLongPackets();
         foreignApplications();
+        allApplications();
         gapsOfApplications();
+        shortestPartialPacket();
         changedCounts();
         keptPackets();
         packetValues();
@@ -309,6 +311,32 @@ final class ReceptionTest {
         Check.same("17 not broken", idle.count(3), 0);
     }
 
+    private static void allApplications() {
+        TelemetryLink x = new TelemetryLink();
+        for (int application = 0; application < 15; application++) {
+            x.addPacket(application % 4, application, 13, application);
+        }
+        x.send(15);
+        Check.same("16 all applications", x.receive(15), 15);
+        for (int application = 0; application < 15; application++) {
+            Check.same("19 application " + application, x.application(application, 0), 1);
+            Check.same("19 its data bytes", x.application(application, 2), 13);
+        }
+    }
+
+    private static void shortestPartialPacket() {
+        TelemetryLink x = new TelemetryLink();
+        x.addPacket(0, 0, 12, 0);
+        x.addPacket(0, 0, 28, 0);
+        x.send(3);
+        x.lose(1);
+        x.receive(1);
+        Check.same("18 one byte", x.received(0, 2), 1);
+        x.receive(2);
+        Check.same("17 one byte is a partial packet", x.count(3), 1);
+        Check.same("18 what is left is the start of an idle packet", x.received(0, 2), 2);
+    }
+
     private static void gapsOfApplications() {
         TelemetryLink x = new TelemetryLink();
         for (int i = 0; i < 4; i++) {
@@ -359,6 +387,7 @@ final class ReceptionTest {
         x.undo();
         x.undo();
         x.undo();
+        Check.refuses(x, Check.INDEX, "22 packet 30", () -> x.packetByte(30, 0));
         Check.same("21 undo brings back the oldest one", x.packet(0, 2), 4);
         Check.same("22 undo brings back its bytes", x.packetByte(0, 1), 11);
         Check.same("21 and the latest one", x.packet(29, 2), 33);
@@ -428,5 +457,16 @@ final class ReceptionTest {
         Check.refuses(x, Check.INDEX, "18 channel 7", () -> x.received(7, 0));
         Check.refuses(x, Check.INDEX, "21 packet 1", () -> x.packet(1, 0));
         Check.refuses(x, Check.INDEX, "22 packet 1", () -> x.packetByte(1, 0));
+        x.undo();
+        Check.refuses(x, Check.INDEX, "21 a packet that undo took back", () -> x.packet(0, 0));
+        Check.refuses(x, Check.INDEX, "22 a packet that undo took back", () -> x.packetByte(0, 0));
+        x.receive(1);
+        x.addPacket(0, 0, 13, 0);
+        x.send(1);
+        x.receive(1);
+        x.send(1);
+        x.undo();
+        x.undo();
+        Check.refuses(x, Check.INDEX, "22 the second was taken back", () -> x.packetByte(1, 0));
     }
 }

@@ -210,6 +210,16 @@ final class SendingTest {
         Check.same("7 overdue with few bytes", low.frameByte(6, 1), 3);
         low.send(1);
         Check.same("7 no bytes, not overdue", low.frameByte(7, 1), 0);
+        TelemetryLink one = new TelemetryLink();
+        one.setFrameLength(8);
+        one.setChannel(0, 0, 2, 50);
+        one.addPacket(0, 0, 2, 0);
+        one.send(3);
+        Check.same("7 one byte of an idle packet", one.queue(0, 1), 1);
+        one.send(1);
+        Check.same("7 not yet", one.nextChannel(), TelemetryLink.NONE);
+        one.send(1);
+        Check.same("7 one byte is overdue", one.nextChannel(), 0);
         TelemetryLink wide = fourBusyChannels();
         wide.setChannel(0, 0, 50, 0);
         wide.setChannel(3, 9, 50, 0);

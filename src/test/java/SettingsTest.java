@@ -105,10 +105,15 @@ final class SettingsTest {
         Check.refuses(x, Check.ARGUMENT, "2 pending, and length", () -> x.setFrameLength(41));
         x.send(1);
         Check.same("2 all sent", x.setFrameLength(8), 16);
-        x.addPacket(2, 0, 3, 0);
-        x.send(1);
-        Check.same("2 rest of an idle packet", x.queue(2, 1), 2);
-        Check.refuses(x, Check.STATE, "2 idle bytes pending", () -> x.setFrameLength(9));
+        for (int channel = 0; channel < 4; channel++) {
+            // 4 bytes of an idle packet, of which one stays pending.
+            x.addPacket(channel, 0, 2, 0);
+            x.send(1);
+            Check.same("2 rest of an idle packet", x.queue(channel, 1), 1);
+            Check.refuses(x, Check.STATE, "2 an idle byte pending", () -> x.setFrameLength(9));
+            x.send(1);
+            Check.same("2 sent too", Check.undoable(x, "2", () -> x.setFrameLength(8)), 8);
+        }
     }
 
     private static void channelSettings() {

@@ -55,10 +55,16 @@ final class TimeTest {
         frames(x, 1);
         Check.reads(x, "24 channel count 8", x::timePairs, 2);
         Check.same("25 slots 3 and 11", x.groundTime(3000), 3250);
+        x.setClock(16, 1250);
         frames(x, 8);
         Check.reads(x, "24 two are kept", x::timePairs, 2);
+        // Slot 11: clock 11000, ground 11250. Slot 19: clock 19019, ground 20250.
+        Check.same("25 the newer one of three", x.groundTime(19019), 20250);
+        Check.same("25 the second one", x.groundTime(11000), 11250);
         x.undo();
         Check.reads(x, "24 two before", x::timePairs, 2);
+        Check.same("25 the newer one before", x.groundTime(11000), 11250);
+        Check.same("25 the older one before", x.groundTime(3000), 3250);
         TelemetryLink y = new TelemetryLink();
         y.addPacket(0, 0, 13, 0);
         y.addPacket(0, 0, 13, 0);
@@ -112,6 +118,20 @@ final class TimeTest {
         Check.same("25 the older pair", x.groundTime(1001), 1100);
         Check.same("25 one more", x.groundTime(9010), 9301);
         Check.same("25 one less is rounded down", x.groundTime(9008), 9298);
+        TelemetryLink y = new TelemetryLink();
+        y.setClock(16, 100);
+        y.addPacket(0, 0, 13, 0);
+        y.send(1);
+        y.receive(1);
+        frames(y, 7);
+        y.addPacket(0, 0, 13, 0);
+        y.send(1);
+        y.setClock(500, 500);
+        y.undo();
+        y.receive(1);
+        // Slot 0: clock 0, ground 100. Slot 8: clock 8008, ground 8100.
+        Check.same("25 after undo, the newer pair", y.groundTime(8008), 8100);
+        Check.same("25 after undo, the older pair", y.groundTime(0), 100);
     }
 
     private static void groundTimes() {

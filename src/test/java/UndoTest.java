@@ -9,6 +9,8 @@ final class UndoTest {
     public static void main(String[] args) {
         stack();
         wholeState();
+        queueComesBack();
+        receiverComesBack();
         refusedCallsSaveNothing();
         digestOfANewObject();
         digestOfABusyObject();
@@ -66,6 +68,64 @@ final class UndoTest {
         sameText("26 after addPacket", everything(x), before);
         Check.same("26 the same calls go on from there", x.receive(2), 1);
         Check.same("26 with the same packet", x.packet(0, 4), 1330);
+    }
+
+    private static void queueComesBack() {
+        TelemetryLink x = new TelemetryLink();
+        TelemetryLink twin = new TelemetryLink();
+        for (TelemetryLink link : new TelemetryLink[] {x, twin}) {
+            link.setChannel(0, 0, 3, 0);
+            link.setChannel(1, 5, 50, 0);
+            link.addPacket(0, 3, 20, 50);
+            link.addPacket(0, 4, 30, 90);
+            link.addPacket(0, 4, 9, 7);
+            link.addPacket(1, 5, 50, 1);
+            link.send(4);
+            link.send(1);
+        }
+        x.send(20);
+        x.undo();
+        x.addPacket(0, 9, 1, 1);
+        x.undo();
+        Check.same("26 wait", x.queue(0, 2), twin.queue(0, 2));
+        Check.same("26 bytes", x.queue(0, 1), twin.queue(0, 1));
+        x.send(10);
+        twin.send(10);
+        Check.same("26 latency", x.sent(0, 2), twin.sent(0, 2));
+        for (int frame = 0; frame < 15; frame++) {
+            for (int index = 0; index < 22; index++) {
+                Check.same("26 byte " + index + " of frame " + frame,
+                        x.frameByte(frame, index), twin.frameByte(frame, index));
+            }
+        }
+    }
+
+    private static void receiverComesBack() {
+        TelemetryLink x = new TelemetryLink();
+        TelemetryLink twin = new TelemetryLink();
+        for (TelemetryLink link : new TelemetryLink[] {x, twin}) {
+            for (int i = 0; i < 6; i++) {
+                link.addPacket(i % 2, 3, 20, i);
+            }
+            link.send(12);
+            link.lose(2);
+            link.lose(3);
+            link.receive(8);
+        }
+        x.lose(1);
+        x.receive(4);
+        x.undo();
+        x.undo();
+        // The same number of states is left on the twin's stack.
+        twin.setClock(0, 250);
+        twin.setClock(0, 250);
+        twin.undo();
+        twin.undo();
+        Check.same("26 missing frames", x.count(2), twin.count(2));
+        Check.same("26 missing frames of a channel", x.received(0, 1), twin.received(0, 1));
+        Check.same("26 missing packets", x.application(3, 1), twin.application(3, 1));
+        Check.same("26 receive", x.receive(4), twin.receive(4));
+        Check.same("26 digest of both", x.digest(), twin.digest());
     }
 
     private static void refusedCallsSaveNothing() {
