@@ -499,10 +499,7 @@ public final class TelemetryLink {
         int enqueue(int channel, int application, int length, int seed) {
             int sequence = sequences[application];
             sequences[application] = (sequence + 1) & LARGEST_BYTE;
-            QueuedPacket added = senders[channel].append(application, length);
-            added.sequence = sequence;
-            added.seed = seed;
-            added.addedSlot = slot;
+            senders[channel].append(application, sequence, length, seed, slot);
             return sequence;
         }
 
@@ -596,9 +593,9 @@ public final class TelemetryLink {
 
     // The sending side of a channel.
     private static final class SendChannel {
-        // Beside the packets of applications there can be the rest of one idle packet
-        // at the head and a new one at the end.
-        static final int CAPACITY = QUEUE_LIMIT + 2;
+        // Twelve packets can wait behind the rest of an idle packet. No other idle packet comes
+        // behind so many, as they have more bytes than the longest frame.
+        static final int CAPACITY = QUEUE_LIMIT + 1;
         static final int SHORTEST_PACKET = 4;
 
         int priority = 0;
@@ -668,24 +665,23 @@ public final class TelemetryLink {
             wait = getsFrame || pending == 0 ? 0 : wait + 1;
         }
 
-        QueuedPacket append(int application, int length) {
+        void append(int application, int sequence, int length, int seed, int slot) {
             int place = Math.min(size, CAPACITY - 1);
             QueuedPacket added = packets[place];
             added.application = application;
-            added.sequence = 0;
+            added.sequence = sequence;
             added.length = length;
-            added.seed = 0;
-            added.addedSlot = 0;
+            added.seed = seed;
+            added.addedSlot = slot;
             size = place + 1;
             pending += added.size();
-            return added;
         }
 
         void fill(Frame frame, int slot) {
             int length = frame.length;
             if (pending < length) {
                 int idleSize = Math.max(SHORTEST_PACKET, length - pending);
-                append(IDLE_APPLICATION, idleSize - PACKET_HEADER);
+                append(IDLE_APPLICATION, 0, idleSize - PACKET_HEADER, 0, slot);
             }
             int pointer = NO_HEADER;
             for (int i = 0; i < length && i < LONGEST_FRAME; i++) {

@@ -307,6 +307,15 @@ final class SendingTest {
         Check.same("8 known check value", checkOf(new int[] {49, 50, 51, 52, 53, 54, 55, 56, 57}), 0x29B1);
         Check.same("8 nothing pending", x.queue(3, 1), 0);
         Check.same("8 nothing to send", x.send(1), 0);
+        TelemetryLink y = new TelemetryLink();
+        for (int i = 0; i < 6; i++) {
+            y.addPacket(0, 2, 3, 0);
+            y.send(1);
+            Check.same("8 sequence count of packet " + i, y.frameByte(i, 5), i);
+            Check.same("8 idle application " + i, y.frameByte(i, 10), 15);
+            Check.same("8 idle sequence count " + i, y.frameByte(i, 11), 0);
+            Check.same("8 idle data " + i, y.frameByte(i, 13), 170);
+        }
     }
 
     /** The document's check value, bit by bit from the highest one on. */
