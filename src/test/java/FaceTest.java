@@ -43,7 +43,7 @@ final class FaceTest {
         classAndConstructor();
         fields();
         methods();
-        namesOfNestedMethods();
+        namesOfPrivateMethods();
         Check.end();
     }
 
@@ -54,10 +54,14 @@ final class FaceTest {
         Check.same("constructors", all.length, 1);
         Check.same("public constructor", all[0].getModifiers(), Modifier.PUBLIC);
         Check.same("its parameters", all[0].getParameterCount(), 0);
+        Check.same("NONE", TelemetryLink.NONE, -1);
     }
 
     private static void fields() {
         for (Field field : TelemetryLink.class.getDeclaredFields()) {
+            if (field.isSynthetic()) {
+                continue;
+            }
             boolean isPublic = field.getName().equals("NONE");
             int due = isPublic ? Modifier.PUBLIC : Modifier.PRIVATE;
             int access = Modifier.PUBLIC | Modifier.PROTECTED | Modifier.PRIVATE;
@@ -91,14 +95,15 @@ final class FaceTest {
         return text.append(')').toString();
     }
 
-    private static void namesOfNestedMethods() {
+    /** Rule 1 of LANGUAGE.md: "No private method bears the name of a public one." */
+    private static void namesOfPrivateMethods() {
         Set<String> names = new TreeSet<>();
         for (String method : FACE) {
             names.add(method.substring(method.indexOf(' ') + 1, method.indexOf('(')));
         }
-        for (Class<?> nested : TelemetryLink.class.getDeclaredClasses()) {
-            for (Method method : nested.getDeclaredMethods()) {
-                Check.same(nested.getName() + " has a name of the face: " + method.getName(),
+        for (Method method : TelemetryLink.class.getDeclaredMethods()) {
+            if (Modifier.isPrivate(method.getModifiers()) && !method.isSynthetic()) {
+                Check.same("a private method has a name of the face: " + method.getName(),
                         names.contains(method.getName()) ? 1 : 0, 0);
             }
         }
