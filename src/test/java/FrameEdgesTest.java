@@ -1,3 +1,5 @@
+import java.util.Arrays;
+
 /** The edges that the section FRAMES names, for the promises 2, 8, 10, 12 and 14. */
 final class FrameEdgesTest {
     private static final int[] LENGTHS = {8, 9, 16, 39, 40};
@@ -15,6 +17,7 @@ final class FrameEdgesTest {
         channelCountsAreApart();
         checkValues();
         checkValueOfChosenBytes();
+        checkValueAround32768();
         checkValueHigherByteFirst();
         moreThanOneFrame();
         justOneFrame();
@@ -154,16 +157,23 @@ final class FrameEdgesTest {
     }
 
     /** The document's check value, one bit of the bytes after the other. */
-    private static int checkOf(TelemetryLink x, int frame, int bytes) {
+    private static int checkOfBytes(int... bytes) {
         int check = 0xFFFF;
-        for (int i = 0; i < bytes; i++) {
-            int value = x.frameByte(frame, i);
+        for (int value : bytes) {
             for (int bit = 7; bit >= 0; bit--) {
                 int top = (check >> 15 ^ value >> bit) & 1;
                 check = check << 1 & 0xFFFF ^ top * 0x1021;
             }
         }
         return check;
+    }
+
+    private static int checkOf(TelemetryLink x, int frame, int size) {
+        int[] bytes = new int[size];
+        for (int i = 0; i < size; i++) {
+            bytes[i] = x.frameByte(frame, i);
+        }
+        return checkOfBytes(bytes);
     }
 
     /** "c becomes (2 * c) XOR 4129 if c is at least 32768, otherwise 2 * c" */
@@ -193,12 +203,32 @@ final class FrameEdgesTest {
             Check.same("repair", x.repair(0), due);
             Check.same("its bytes", x.frameByte(0, 12) * 256 + x.frameByte(0, 13), due);
         }
-        // The well-known value for the text 123456789, in a frame whose other bytes are taken off.
-        TelemetryLink x = new TelemetryLink();
-        x.send(1);
-        Links.setFrame(x, 0, '2', '3', '4', '5', '6', '7', '8', '9');
-        Links.setByte(x, 0, 0, '1');
-        Check.same("the first nine bytes", checkOf(x, 0, 9), 0x29B1);
+        // The well-known value for the text 123456789.
+        Check.same("123456789", checkOfBytes(49, 50, 51, 52, 53, 54, 55, 56, 57), 0x29B1);
+    }
+
+    /** "if c is at least 32768": three data bytes bring c to just this value, before it is doubled. */
+    private static void checkValueAround32768() {
+        for (int value : new int[] {32767, 32768, 32769, 0, 65535}) {
+            TelemetryLink x = Links.ofLength(8);
+            x.send(1);
+            int first = firstByteBefore(value, 0, 7, 0, 254);
+            int check = checkOfBytes(0, 7, 0, 254, first);
+            Links.setFrame(x, 0, 7, 0, 254, first, (check ^ value) >> 8);
+            Check.same("lower byte before " + value, check & 255, value & 255);
+            Check.same("repair", x.repair(0), checkOf(x, 0, 12));
+            x.receive(1);
+            Check.same("good", x.count(0), 1);
+        }
+    }
+
+    /** The byte behind these, after which the lower byte of c is that of the value. */
+    private static int firstByteBefore(int value, int... before) {
+        int[] bytes = Arrays.copyOf(before, before.length + 1);
+        while ((checkOfBytes(bytes) & 255) != (value & 255)) {
+            bytes[before.length]++;
+        }
+        return bytes[before.length];
     }
 
     /** "the check value (two bytes, the higher one first)" */

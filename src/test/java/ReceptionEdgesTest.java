@@ -40,6 +40,8 @@ final class ReceptionEdgesTest {
         packetsWithoutDataInARow();
         longestPacket();
         largestSum();
+        shorterPacketAfterALongerOne();
+        dataBytesOfAnApplication();
         packetAcrossFrameLengths();
         applications14To16();
         applicationsAbove15();
@@ -427,7 +429,7 @@ final class ReceptionEdgesTest {
     }
 
     private static void pointersOfAChannelInStep() {
-        for (int pointer : new int[] {0, 1, 4, 7, NO_POINTER}) {
+        for (int pointer : new int[] {0, 1, 4, 7, 8, 254, NO_POINTER}) {
             TelemetryLink x = inStep(0, 4, 0, 6, 1);
             int delivered = Links.receive(x, 0, 1, pointer, 2, 3, 4, 5, 6, 15, 0, 9);
             Check.same("pointer " + pointer, delivered, 1);
@@ -550,6 +552,29 @@ final class ReceptionEdgesTest {
         Check.same("sum", x.packet(0, 4), 255 * 255);
         Check.same("last byte", x.packetByte(0, 254), 255);
         Check.same("data bytes", x.application(14, 2), 255);
+    }
+
+    private static void shorterPacketAfterALongerOne() {
+        TelemetryLink x = inStep(0, 4, 0, 5, 90, 91, 92, 93, 94);
+        Check.same("two", Links.receive(x, 0, 1, 0, 4, 1, 0, 4, 2, 2, 7, 8), 2);
+        int[] due = {460, 0, 15};
+        for (int i = 0; i < 3; i++) {
+            Check.same("sum of " + i, x.packet(i, 4), due[i]);
+        }
+        Twins.throwing("no byte", Check.INDEX, x, y -> y.packetByte(1, 0));
+        Twins.throwing("no third byte", Check.INDEX, x, y -> y.packetByte(2, 2));
+    }
+
+    /** "2 data bytes delivered" */
+    private static void dataBytesOfAnApplication() {
+        TelemetryLink x = inStep(0, 14, 0, 5, 90, 91, 92, 93, 94);
+        Check.same("five", x.application(14, 2), 5);
+        Links.receive(x, 0, 1, 0, 14, 1, 0, 14, 2, 2, 7, 8);
+        Check.same("none and two more", x.application(14, 2), 7);
+        Links.receive(x, 1, 1, 0, 14, 3, 5, 1, 1, 1, 1, 1);
+        Check.same("five of another channel", x.application(14, 2), 12);
+        Check.same("packets", x.application(14, 0), 4);
+        Check.same("another application", x.application(13, 2), 0);
     }
 
     private static void packetAcrossFrameLengths() {

@@ -110,7 +110,38 @@ final class UndoEdgesTest {
         takenBack("last frame", Links::fullWire, x -> x.lose(59));
     }
 
+    private static TelemetryLink framesOfSeveralLengths() {
+        TelemetryLink x = new TelemetryLink();
+        for (int length : new int[] {40, 9, 16}) {
+            x.setFrameLength(length);
+            x.addPacket(0, 3, length - 3, length);
+            x.send(1);
+        }
+        x.addPacket(1, 3, 1, 0);
+        return x;
+    }
+
+    /** Two frames of channel 1 and two packets got lost. */
+    private static TelemetryLink missingFramesAndPackets() {
+        TelemetryLink x = Links.ofLength(8);
+        for (int i = 0; i < 6; i++) {
+            x.addPacket(1, 9, 5, i);
+        }
+        x.send(6);
+        x.lose(1);
+        x.lose(3);
+        x.receive(5);
+        Check.same("missing frames", x.received(1, 1), 2);
+        Check.same("missing packets", x.application(9, 1), 2);
+        return x;
+    }
+
     private static void receiveIsTakenBack() {
+        for (int frames = 1; frames <= 3; frames++) {
+            int n = frames;
+            takenBack("several lengths", UndoEdgesTest::framesOfSeveralLengths, x -> x.receive(n));
+        }
+        takenBack("missing ones", UndoEdgesTest::missingFramesAndPackets, x -> x.receive(1));
         for (int n = 1; n <= 6; n++) {
             int frames = n;
             takenBack("busy, " + n, Links::busy, x -> x.receive(frames));
