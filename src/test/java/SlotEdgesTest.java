@@ -33,6 +33,7 @@ final class SlotEdgesTest {
         readyTieByWait();
         readyTieByNumber();
         idleFrameWhileAllAreHeld();
+        framesThatAreNotIdle();
         latency0();
         latencyOfALaterSlot();
         latencyOfTheLastByte();
@@ -430,6 +431,27 @@ final class SlotEdgesTest {
         next("wait 52", x, 2);
         next("wait 53", x, 3);
         next("nothing left", x, NONE);
+    }
+
+    /** Promise 8: "Returns the number of these frames that are not idle frames." */
+    private static void framesThatAreNotIdle() {
+        Check.same("none of 1", new TelemetryLink().send(1), 0);
+        Check.same("none of 60", new TelemetryLink().send(60), 0);
+        for (int frames = 59; frames <= 61; frames++) {
+            TelemetryLink x = Links.ofLength(8);
+            for (int i = 0; i < 7; i++) {
+                x.addPacket(1, 0, 50, 0);
+            }
+            x.addPacket(1, 0, 37, 0);
+            x.addPacket(1, 0, 37, 0);
+            x.addPacket(1, 0, 8 * frames - x.queue(1, 1) - 3, 0);
+            Check.same("bytes of " + frames + " frames", x.queue(1, 1), 8 * frames);
+            Check.same("frames of 60", x.send(60), Math.min(frames, 60));
+            Check.same("bytes left", x.queue(1, 1), frames > 60 ? 8 : 0);
+        }
+        TelemetryLink one = new TelemetryLink();
+        one.addPacket(3, 0, 13, 0);
+        Check.same("1 of 60", one.send(60), 1);
     }
 
     /** "the number of the slot in which its last byte is sent minus the number of the slot that is
