@@ -44,7 +44,7 @@ final class FaceTest {
     private FaceTest() {
     }
 
-    public static void main(String[] args) {
+    public static void main(String[] args) throws IllegalAccessException {
         classAndConstructor();
         none();
         fields();
@@ -66,8 +66,7 @@ final class FaceTest {
     }
 
     /** "public static final int NONE = -1;" */
-    private static void none() {
-        Check.same("NONE", TelemetryLink.NONE, -1);
+    private static void none() throws IllegalAccessException {
         int constants = 0;
         for (Field field : TelemetryLink.class.getFields()) {
             constants++;
@@ -75,6 +74,7 @@ final class FaceTest {
             Check.same("type of " + field, field.getType() == int.class ? 1 : 0, 1);
             Check.same("modifiers of " + field, field.getModifiers(),
                     Modifier.PUBLIC | Modifier.STATIC | Modifier.FINAL);
+            Check.same("value of " + field, field.getInt(null), -1);
         }
         Check.same("constants", constants, 1);
     }

@@ -34,6 +34,10 @@ final class PacketEdgesTest {
             x.receive(1);
             Check.same("channel of the packet", x.packet(0, 0), channel);
         }
+        for (int channel : new int[] {-1, 4}) {
+            TelemetryLink x = new TelemetryLink();
+            Twins.throwing("no channel " + channel, Check.INDEX, x, y -> y.addPacket(channel, 0, 13, 0));
+        }
     }
 
     /** "The sequence count of an application starts with 0" */

@@ -19,6 +19,7 @@ final class SlotEdgesTest {
         slotNumbers();
         readyWithDBytes();
         readyAtTheHoldTime();
+        readyWithOneByte();
         notReadyWithoutBytes();
         overdueAtTheBound();
         overdueAtOnce();
@@ -240,6 +241,18 @@ final class SlotEdgesTest {
         next("wait 50, hold 50", x, 0);
     }
 
+    private static void readyWithOneByte() {
+        for (int channel = 0; channel < 4; channel++) {
+            TelemetryLink x = Links.ofLength(8);
+            x.addPacket(channel, 0, 2, 0);
+            x.send(1);
+            Check.same("one byte of an idle packet", x.queue(channel, 1), 1);
+            x.setChannel(channel, 0, 50, 1);
+            next("wait 0, hold 1", x, NONE);
+            next("wait 1, hold 1", x, channel);
+        }
+    }
+
     private static void notReadyWithoutBytes() {
         TelemetryLink x = new TelemetryLink();
         for (int channel = 0; channel < 4; channel++) {
@@ -449,9 +462,11 @@ final class SlotEdgesTest {
             Check.same("frames of 60", x.send(60), Math.min(frames, 60));
             Check.same("bytes left", x.queue(1, 1), frames > 60 ? 8 : 0);
         }
-        TelemetryLink one = new TelemetryLink();
-        one.addPacket(3, 0, 13, 0);
-        Check.same("1 of 60", one.send(60), 1);
+        for (int channel = 0; channel < 4; channel++) {
+            TelemetryLink one = new TelemetryLink();
+            one.addPacket(channel, 0, 13, 0);
+            Check.same("1 of 60", one.send(60), 1);
+        }
     }
 
     /** "the number of the slot in which its last byte is sent minus the number of the slot that is
