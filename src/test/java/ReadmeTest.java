@@ -190,8 +190,8 @@ final class ReadmeTest {
     /** Runs a command in the room, where it must end well; answers what it printed. */
     private static String succeeds(String what, Path room, String... command)
             throws IOException, InterruptedException {
-        Process process = new ProcessBuilder(command)
-                .directory(room.toFile()).redirectErrorStream(true).start();
+        Process process = new ProcessBuilder(command).directory(room.toFile())
+                .redirectError(ProcessBuilder.Redirect.INHERIT).start();
         String printed = new String(process.getInputStream().readAllBytes());
         int exit = process.waitFor();
         Check.same(what + ": " + printed + "exit code", exit, 0);
